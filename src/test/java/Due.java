@@ -38,12 +38,13 @@ final class Due {
         }
     }
 
+    /** The class has to throw by itself; the machine's own exception tells the index in its text. */
     void gotThrows(LongTransfer x, int i) {
         boolean thrown = false;
         try {
             x.got(i);
         } catch (ArrayIndexOutOfBoundsException e) {
-            thrown = true;
+            thrown = e.getMessage() == null || !e.getMessage().startsWith("Index ");
         }
         is("got(" + i + ") throws", true, thrown);
     }

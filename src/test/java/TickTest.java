@@ -9,6 +9,7 @@ final class TickTest {
         sendersInterleaveByTime();
         receiversGoOneTwoThreeZero();
         sendersGoBeforeReceivers();
+        somethingAtEveryTime();
         allThatEndsIsCounted();
         fullFramesEndTheSides();
         overflowWithFullFrames();
@@ -136,6 +137,30 @@ final class TickTest {
         y.tick(500);
         due.frameIs(y, 6, 2, 2, 2, 7, 500, 0);
         due.frameIs(y, 7, 3, 1, 1, 0, 500, 0);
+    }
+
+    /** Four senders in turn, each every fourth tick: 5001 times at which a frame is made, in one call. */
+    private static void somethingAtEveryTime() {
+        LongTransfer x = new LongTransfer(10000);
+        for (int m = 1; m <= 4; m++) {
+            x.send(10000);
+        }
+        x.tick(0);
+        x.flow(0, 4, 0);
+        for (int m = 1; m <= 4; m++) {
+            x.receive(m);
+        }
+        for (int m = 1; m <= 4; m++) {
+            x.tick(m - 1);
+            x.receive(4 + m);
+        }
+        due.framesAre(x, 11);
+        due.is("tick(5003)", 4, x.tick(5003));
+        due.framesAre(x, 11 + 5001);
+        for (int time = 0; time <= 5003; time++) {
+            due.is("frame(" + (9 + time) + ", 4)", time, x.frame(9 + time, 4));
+            due.is("frame(" + (9 + time) + ", 1)", 1 + time % 4, x.frame(9 + time, 1));
+        }
     }
 
     private static void allThatEndsIsCounted() {
