@@ -208,8 +208,6 @@ public final class LongTransfer {
 
         void rest(int restState) {
             state = restState;
-            octets = NO_OCTETS;
-            have = 0;
             answerAt = NEVER;
             giveUpAt = NEVER;
         }

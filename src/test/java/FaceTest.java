@@ -55,11 +55,17 @@ final class FaceTest {
             due.is(m + " is of the face or hidden", true, hidden != FACE.contains(faceOf(m)));
             due.is(m + " bears a name of its own", true, !hidden || !names.contains(m.getName()));
             due.is(m + " takes at most seven", true, m.getParameterCount() <= 7);
+            due.is(m + " tells what it throws", true, Arrays.equals(m.getExceptionTypes(), thrownBy(m)));
         }
         fieldsKeepTheRules(c);
         for (Field f : c.getDeclaredFields()) {
             due.is(f + " is hidden", true, Modifier.isPrivate(f.getModifiers()));
         }
+    }
+
+    private static Class<?>[] thrownBy(Method m) {
+        boolean throwsSome = m.getName().equals("got");
+        return throwsSome ? new Class<?>[] {ArrayIndexOutOfBoundsException.class} : new Class<?>[0];
     }
 
     private static void fieldsKeepTheRules(Class<?> c) {
