@@ -9,6 +9,7 @@ final class ReceiverEdges {
         aboveTheRoom(doc);
         withinTheRoom(doc);
         awaitsSequenceOne(doc);
+        nothingOfTheMessageBefore(doc);
         newMessages(doc);
         newMessagesWhenNotReceiving(doc);
         sequences(doc);
@@ -128,6 +129,34 @@ final class ReceiverEdges {
             x.receive(15 + first, first == 1 ? 1 : 3);
             x.ended(3, first == 1 ? 0 : 1);
         }
+    }
+
+    /** One message is left in the middle, the next two of the same receiver become whole. */
+    private static void nothingOfTheMessageBefore(Sentences doc) {
+        Run x = new Run(doc, 100);
+        x.sends(27, 1, 1, 1, 20, 1, 1, 1, 20);
+        x.octet(1, 19, 1);
+        x.octet(5, 0, 2);
+        x.octet(5, 19, 3);
+        x.octet(9, 6, 4);
+        x.tick(0, 0);
+        x.receive(1, 1);
+        x.receive(10, 2);
+        x.tick(0, 0);
+        x.receiveAll(11, 12, 1);
+        for (int k = 0; k < 2; k++) {
+            x.receive(5 + 4 * k, 1);
+            x.receive(14 + 3 * k, 2);
+            x.tick(0, 0);
+            x.receive(15 + 3 * k, 1);
+            x.ended(0, k);
+            x.receive(16 + 3 * k, 2);
+            x.length(20);
+            x.got(0, k == 0 ? 2 : 0);
+            x.got(6, k == 0 ? 0 : 4);
+            x.got(19, k == 0 ? 3 : 0);
+        }
+        x.counts(2, 0, 0, 0, 0, 0, 1, 0);
     }
 
     private static void newMessages(Sentences doc) {
